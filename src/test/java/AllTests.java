@@ -1,0 +1,13 @@
+import java.io.IOException;
+
+/** Runs every test of the project; ends with exit code 1 if one fails. */
+public final class AllTests {
+    public static void main(String[] args) throws IOException {
+        Due due = new Due();
+        PromiseTests.run(due);
+        ModelTests.run(due);
+        LanguageTests.run(due, args.length > 0 ? args[0] : "src/main/java/RoundOfTheA.java");
+        System.out.println("project: " + due.passed() + " passed, " + due.failed() + " failed");
+        if (due.failed() > 0) System.exit(1);
+    }
+}
