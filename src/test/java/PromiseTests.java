@@ -328,6 +328,12 @@ final class PromiseTests {
         is("a refused minute", x.count(1), 99960);
         is("tune beyond", x.tune(1), 59);
         is("SECONDS beyond", x.count(1), 100019);
+        RoundOfTheA full = laid("d2,3,1,9;d0,3,39,9;");
+        full.tune(2);
+        for (int i = 0; i < 27; i++) full.minutes(60);
+        is("SECONDS ahead of the very end", full.count(1), 97239);
+        is("minutes(47) beyond the very end", full.minutes(47), NO);
+        is("minutes(46) to the very end", full.minutes(46), 99999);
         RoundOfTheA still = laid("d0,3,59,9;w0;");
         still.minutes(60);
         is("no warmth", still.off(0) + still.count(2), 1000);
