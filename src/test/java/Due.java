@@ -13,6 +13,10 @@ final class Due {
         if (failed <= 40) System.out.println(what + " answered " + got + ", due is " + want);
     }
 
+    int checks() {
+        return passed + failed;
+    }
+
     int passed() {
         return passed;
     }
