@@ -65,8 +65,8 @@ abstract class Edges {
         return item.repeat(n);
     }
 
-    /** The call is refused, and then the object is as one that was never asked. */
-    void refused(String call, int want, Consumer<RoundOfTheA> before, ToIntFunction<RoundOfTheA> asking) {
+    /** The call answers so, and then the object is as one that was never asked. */
+    void leavesAll(String call, int want, Consumer<RoundOfTheA> before, ToIntFunction<RoundOfTheA> asking) {
         RoundOfTheA asked = new RoundOfTheA();
         RoundOfTheA spared = new RoundOfTheA();
         before.accept(asked);

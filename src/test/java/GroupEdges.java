@@ -290,9 +290,16 @@ final class GroupEdges extends Edges {
         });
         holds("3: NEEDLES: the highest of eight", () ->
             needlesAre(laid(times(7, "d2,3,1,9;") + "d1,6,1,9;w0;"), 1, 128, 0));
-        holds("3: NEEDLES: of just so many, not fewer", () ->
-            // A NEEDLE for desk 0 or 1 draws it from the note that both take: two of them are best again.
-            needlesAre(laid("d1,3,1,9;d1,3,1,9;w0;o18,0;"), 1, 1, 9));
+        holds("3: NEEDLES: the lowest of eight, all others are worse", () ->
+            needlesAre(laid("d1,6,1,9;d1,3,1,9;" + times(6, "d2,3,1,9;") + "w0;"), 1, 1, 0));
+        holds("3: NEEDLES: of just so many, though fewer or more were better", () -> {
+            RoundOfTheA x = laid("d1,3,1,9;d1,3,1,9;w0;o18,0;");
+            needlesAre(x, 0, 0, 0);
+            needlesAre(x, 1, 1, 9);
+            needlesAre(x, 2, 3, 0);
+        });
+        holds("3: NEEDLES: who has one already is one of them", () ->
+            needlesAre(laid("d1,3,1,8;d1,3,1,9;d2,3,1,9;w0;o18,0;"), 1, 2, 0));
     }
 
     private void blameIs(RoundOfTheA x, int desk, int spread) {
@@ -354,23 +361,36 @@ final class GroupEdges extends Edges {
 
     private void wouldBe() {
         holds("15 to 22: what would be changes nothing", () -> {
-            refused("round(-2)", 20, GroupEdges::slow, x -> x.round(-2));
-            refused("halves(2)", 30, GroupEdges::slow, x -> x.halves(2));
-            refused("way(1, 0)", 2, GroupEdges::slow, x -> x.way(1, 0));
-            refused("ear(0, 0)", 9, GroupEdges::slow, x -> x.ear(0, 0));
-            refused("again()", 0, GroupEdges::slow, x -> x.again());
-            refused("needles(1, 0)", 2, GroupEdges::slow, x -> x.needles(1, 0));
-            refused("blame(0)", 0, GroupEdges::slow, x -> x.blame(0));
+            leavesAll("round(-2)", 20, GroupEdges::slow, x -> x.round(-2));
+            leavesAll("halves(2)", 30, GroupEdges::slow, x -> x.halves(2));
+            leavesAll("way(1, 0)", 2, GroupEdges::slow, x -> x.way(1, 0));
+            leavesAll("ear(0, 0)", 9, GroupEdges::slow, x -> x.ear(0, 0));
+            leavesAll("again()", 0, GroupEdges::slow, x -> x.again());
+            leavesAll("needles(1, 0)", 2, GroupEdges::slow, x -> x.needles(1, 0));
+            leavesAll("blame(0)", 0, GroupEdges::slow, x -> x.blame(0));
         });
         holds("15 to 22: refused, nothing changes", () -> {
-            refused("round(9)", BAD, Edges::lived, x -> x.round(9));
-            refused("halves(3)", BAD, Edges::lived, x -> x.halves(3));
-            refused("way(5, 0)", BAD, Edges::lived, x -> x.way(5, 0));
-            refused("ear(3, 0)", NO, Edges::lived, x -> x.ear(3, 0));
-            refused("needles(4, 0)", BAD, Edges::lived, x -> x.needles(4, 0));
-            refused("blame(2)", BAD, Edges::lived, x -> x.blame(2));
-            refused("fifths(10, 0, 0)", BAD, Edges::lived, x -> x.fifths(10, 0, 0));
+            leavesAll("round(9)", BAD, Edges::lived, x -> x.round(9));
+            leavesAll("halves(3)", BAD, Edges::lived, x -> x.halves(3));
+            leavesAll("way(5, 0)", BAD, Edges::lived, x -> x.way(5, 0));
+            leavesAll("ear(3, 0)", NO, Edges::lived, x -> x.ear(3, 0));
+            leavesAll("needles(4, 0)", BAD, Edges::lived, x -> x.needles(4, 0));
+            leavesAll("blame(2)", BAD, Edges::lived, x -> x.blame(2));
+            leavesAll("fifths(10, 0, 0)", BAD, Edges::lived, x -> x.fifths(10, 0, 0));
         });
+        holds("17, 19, 20: NONE: nothing changes", () -> {
+            leavesAll("way(0, 1)", NONE, GroupEdges::still, x -> x.way(0, 1));
+            leavesAll("again()", NONE, GroupEdges::still, x -> x.again());
+            leavesAll("needles(3, 1)", NONE, GroupEdges::still, x -> x.needles(3, 1));
+        });
+    }
+
+    private static void still(RoundOfTheA x) {
+        writeAll(x, "d1,3,1,1;d1,3,1,0;d2,3,1,9;w0;");
+        x.lay();
+        x.keep();
+        x.minutes(2);
+        x.tune(3);
     }
 
     private static void slow(RoundOfTheA x) {

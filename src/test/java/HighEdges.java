@@ -50,22 +50,22 @@ final class HighEdges extends Edges {
     }
 
     private void togetherRefused() {
-        holds("23: BAD (the empty set, too)", () -> refused("together(0, 200)", BAD, Edges::lived, x -> x.together(0, 200)));
+        holds("23: BAD (the empty set, too)", () -> leavesAll("together(0, 200)", BAD, Edges::lived, x -> x.together(0, 200)));
         holds("23: BAD: sets of such DESKS as there are", () -> {
-            refused("together(32, 200)", BAD, Edges::lived, x -> x.together(32, 200));
+            leavesAll("together(32, 200)", BAD, Edges::lived, x -> x.together(32, 200));
             RoundOfTheA x = new RoundOfTheA();
             for (int set : new int[] {33, 255, 256, -1, MIN, MAX}) is("together(" + set + ", 200)", x.together(set, 200), BAD);
             is("together(2, 200) of one", laid("d0,3,1,9;").together(2, 200), BAD);
             is("together(256, 200) of eight", laid(times(8, "d0,3,1,9;")).together(256, 200), BAD);
         });
         holds("23: BAD: v (0 to 400)", () -> {
-            refused("together(1, -1)", BAD, Edges::lived, x -> x.together(1, -1));
-            refused("together(1, 401)", BAD, Edges::lived, x -> x.together(1, 401));
+            leavesAll("together(1, -1)", BAD, Edges::lived, x -> x.together(1, -1));
+            leavesAll("together(1, 401)", BAD, Edges::lived, x -> x.together(1, 401));
             RoundOfTheA x = new RoundOfTheA();
             for (int v : new int[] {-200, 1000, MIN, MAX}) is("together(1, " + v + ")", x.together(1, v), BAD);
         });
         holds("4: 8 at most: FULL", () -> {
-            refused("together of nine", FULL, HighEdges::eightTogether, x -> x.together(2, 200));
+            leavesAll("together of nine", FULL, HighEdges::eightTogether, x -> x.together(2, 200));
             RoundOfTheA x = new RoundOfTheA();
             eightTogether(x);
             is("the same once more", x.together(1, 205), FULL);
@@ -231,6 +231,10 @@ final class HighEdges extends Edges {
             oddsAre(laid("d1,3,1,9;d2,3,1,9;"), 10, 1, 1);
             oddsAre(laid("d1,3,1,9;d2,3,1,9;p0,24;"), 5, 0, 1);
         });
+        holds("4: ODDS: each STRING and HARP, others told ahead of them", () -> {
+            oddsAre(laid("d2,3,1,9;d1,3,1,9;d0,3,1,9;d3,3,1,9;h20;"), 5, 1, 1);
+            oddsAre(laid("d2,3,1,9;d1,3,1,9;d0,3,1,9;d3,3,1,9;"), 3, 49, 100);
+        });
         holds("4: ODDS: by 4 HAIRS: D 3 is less, D 4 is not", () -> {
             oddsAre(laid("d0,3,1,9;d2,3,1,9;h3;"), 4, 3, 5);
             oddsAre(laid("d0,3,1,9;d2,3,1,9;h4;"), 4, 1, 1);
@@ -340,14 +344,15 @@ final class HighEdges extends Edges {
 
     private void nothingChanges() {
         holds("25 to 27: what would be changes nothing", () -> {
-            refused("high(1)", 12, HighEdges::high, x -> x.high(1));
-            refused("odds(5, 1)", 2, HighEdges::high, x -> x.odds(5, 1));
-            refused("evening(1, 0)", 3, HighEdges::high, x -> x.evening(1, 0));
+            leavesAll("high(1)", 12, HighEdges::high, x -> x.high(1));
+            leavesAll("odds(5, 1)", 2, HighEdges::high, x -> x.odds(5, 1));
+            leavesAll("evening(1, 0)", 3, HighEdges::high, x -> x.evening(1, 0));
         });
         holds("25 to 27: refused, nothing changes", () -> {
-            refused("high(2)", BAD, Edges::lived, x -> x.high(2));
-            refused("odds(11, 0)", BAD, Edges::lived, x -> x.odds(11, 0));
-            refused("evening(10000, 0)", BAD, Edges::lived, x -> x.evening(10000, 0));
+            leavesAll("high(2)", BAD, Edges::lived, x -> x.high(2));
+            leavesAll("odds(11, 0)", BAD, Edges::lived, x -> x.odds(11, 0));
+            leavesAll("high(1)", NONE, x -> x.together(1, 400), x -> x.high(1));
+            leavesAll("evening(10000, 0)", BAD, Edges::lived, x -> x.evening(10000, 0));
         });
     }
 

@@ -22,7 +22,7 @@ final class KeptEdges extends Edges {
             is("keep", x.keep(), 2);
         });
         holds("4: 2 at most: FULL", () -> {
-            refused("keep of three", FULL, KeptEdges::twoKept, x -> x.keep());
+            leavesAll("keep of three", FULL, KeptEdges::twoKept, x -> x.keep());
             RoundOfTheA x = new RoundOfTheA();
             twoKept(x);
             x.minutes(5);
@@ -100,11 +100,11 @@ final class KeptEdges extends Edges {
     }
 
     private void backRefused() {
-        holds("29: NO: nothing is KEPT at first", () -> refused("back", NO, x -> {
+        holds("29: NO: nothing is KEPT at first", () -> leavesAll("back", NO, x -> {
             x.minutes(1);
             x.together(1, 200);
         }, x -> x.back()));
-        holds("29: NO: nothing is KEPT any more", () -> refused("back", NO, x -> {
+        holds("29: NO: nothing is KEPT any more", () -> leavesAll("back", NO, x -> {
             twoKept(x);
             x.back();
             x.back();
@@ -170,7 +170,7 @@ final class KeptEdges extends Edges {
         holds("30: BAD: what (0 to 7)", () -> {
             RoundOfTheA x = new RoundOfTheA();
             for (int what : new int[] {-1, 8, 9, MIN, MAX}) is("count(" + what + ")", x.count(what), BAD);
-            refused("count(8)", BAD, Edges::lived, y -> y.count(8));
+            leavesAll("count(8)", BAD, Edges::lived, y -> y.count(8));
         });
         holds("30: each of them at its least", () -> {
             RoundOfTheA x = laid("d0,3,1,9;h1;");
@@ -228,11 +228,11 @@ final class KeptEdges extends Edges {
         });
         holds("BAD: far ones on an object in the midst of its life: nothing changes", () -> {
             for (int n : new int[] {MIN, MAX}) {
-                refused("tune " + n, BAD, Edges::lived, x -> x.tune(n));
-                refused("minutes " + n, BAD, Edges::lived, x -> x.minutes(n));
-                refused("hear " + n, BAD, Edges::lived, x -> x.hear(n, n));
-                refused("together " + n, BAD, Edges::lived, x -> x.together(n, n));
-                refused("write " + n, BAD, Edges::lived, x -> x.write(n));
+                leavesAll("tune " + n, BAD, Edges::lived, x -> x.tune(n));
+                leavesAll("minutes " + n, BAD, Edges::lived, x -> x.minutes(n));
+                leavesAll("hear " + n, BAD, Edges::lived, x -> x.hear(n, n));
+                leavesAll("together " + n, BAD, Edges::lived, x -> x.together(n, n));
+                leavesAll("write " + n, BAD, Edges::lived, x -> x.write(n));
             }
         });
     }

@@ -134,6 +134,8 @@ final class ModelTests {
     }
 
     private void same(String call, int... n) {
+        // What is answered behind the last call is free.
+        if (calls >= MOST_CALLS) return;
         calls++;
         StringBuilder told = new StringBuilder("seed ").append(run).append(", call ").append(calls).append(": ").append(call);
         for (int number : n) told.append(' ').append(number);

@@ -91,7 +91,7 @@ final class TextEdges extends Edges {
             for (int i = 1; i <= 200; i++) is("letter " + i, x.write('x'), i);
         });
         holds("2: FULL", () -> {
-            refused("write of letter 201", FULL, x -> writeAll(x, FULL_TEXT), x -> x.write(';'));
+            leavesAll("write of letter 201", FULL, x -> writeAll(x, FULL_TEXT), x -> x.write(';'));
             RoundOfTheA x = written(FULL_TEXT);
             x.write('d');
             is("fault", x.fault(), NONE);
@@ -102,7 +102,7 @@ final class TextEdges extends Edges {
             is("write(127) with 200 letters", x.write(127), BAD);
             is("write(31) with 200 letters", x.write(31), BAD);
         });
-        holds("2: BAD: nothing changes", () -> refused("write(127)", BAD, Edges::lived, x -> x.write(127)));
+        holds("2: BAD: nothing changes", () -> leavesAll("write(127)", BAD, Edges::lived, x -> x.write(127)));
     }
 
     private void wiping() {
@@ -326,7 +326,7 @@ final class TextEdges extends Edges {
             RoundOfTheA x = written("w1;d0,0,1,9;h0;");
             is("fault", x.fault(), 12);
             is("fault again", x.fault(), 12);
-            refused("fault of w4;", 9, Edges::lived, y -> y.fault());
+            leavesAll("fault of w4;", 9, Edges::lived, y -> y.fault());
         });
     }
 
@@ -346,7 +346,7 @@ final class TextEdges extends Edges {
     }
 
     private void layIsNo(String text) {
-        refused("lay of '" + text + "'", NO, x -> {
+        leavesAll("lay of '" + text + "'", NO, x -> {
             lived(x);
             x.wipe();
             writeAll(x, text);

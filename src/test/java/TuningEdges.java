@@ -26,9 +26,9 @@ final class TuningEdges extends Edges {
     }
 
     private void sets() {
-        holds("8: a set (bits, not empty): BAD", () -> refused("tune(0)", BAD, Edges::lived, x -> x.tune(0)));
+        holds("8: a set (bits, not empty): BAD", () -> leavesAll("tune(0)", BAD, Edges::lived, x -> x.tune(0)));
         holds("8: sets of DESKS such as there are: BAD else", () -> {
-            refused("tune(32) of five", BAD, Edges::lived, x -> x.tune(32));
+            leavesAll("tune(32) of five", BAD, Edges::lived, x -> x.tune(32));
             RoundOfTheA x = new RoundOfTheA();
             for (int set : new int[] {33, 63, 64, 255, 256, -1, -32, MIN, MAX}) is("tune(" + set + ")", x.tune(set), BAD);
             is("SECONDS", x.count(1), 0);
@@ -284,6 +284,16 @@ final class TuningEdges extends Edges {
             x.tune(2);
             offsAre(x, -999, -996);
         });
+        holds("2: within 999: a note that is taken, ahead of the hall's getting warmer", () -> {
+            RoundOfTheA x = laid("d1,3,1,8;d0,6,60,0;w3;");
+            hoursPass(x, 6);
+            x.tune(2);
+            offsAre(x, 999, 996);
+            x = laid("d0,3,1,8;d1,0,60,0;w3;");
+            hoursPass(x, 6);
+            x.tune(2);
+            offsAre(x, -999, -996);
+        });
         holds("2: within 999: the OBOE", () -> {
             RoundOfTheA x = laid("d1,3,1,9;w0;o18,3;");
             for (int i = 0; i < 329; i++) x.tune(1);
@@ -310,8 +320,8 @@ final class TuningEdges extends Edges {
             is("minutes(60)", x.minutes(60), 3660);
         });
         holds("9: n minutes (1 to 60): BAD else", () -> {
-            refused("minutes(0)", BAD, Edges::lived, x -> x.minutes(0));
-            refused("minutes(61)", BAD, Edges::lived, x -> x.minutes(61));
+            leavesAll("minutes(0)", BAD, Edges::lived, x -> x.minutes(0));
+            leavesAll("minutes(61)", BAD, Edges::lived, x -> x.minutes(61));
             RoundOfTheA x = new RoundOfTheA();
             for (int n : new int[] {-1, -60, 62, 1000, MIN, MAX, MAX / 60, MAX / 60 + 1}) is("minutes(" + n + ")", x.minutes(n), BAD);
         });
@@ -338,7 +348,7 @@ final class TuningEdges extends Edges {
             is("minutes(46)", x.minutes(46), 99999);
         });
         holds("9: NO: above 99999: by one second", () -> {
-            refused("minutes(46)", NO, x -> {
+            leavesAll("minutes(46)", NO, x -> {
                 nearlyFull(x);
                 x.tune(4);
             }, x -> x.minutes(46));
@@ -408,17 +418,17 @@ final class TuningEdges extends Edges {
 
     private void hearingRefused() {
         holds("10: BAD: itself, too", () -> {
-            refused("hear(2, 2)", BAD, Edges::lived, x -> x.hear(2, 2));
+            leavesAll("hear(2, 2)", BAD, Edges::lived, x -> x.hear(2, 2));
             RoundOfTheA x = laid(times(8, "d0,3,1,9;"));
             for (int i = 0; i < 8; i++) is("hear(" + i + ", " + i + ")", x.hear(i, i), BAD);
         });
         holds("10: BAD: no such DESK hears", () -> {
-            refused("hear(5, 0)", BAD, Edges::lived, x -> x.hear(5, 0));
+            leavesAll("hear(5, 0)", BAD, Edges::lived, x -> x.hear(5, 0));
             RoundOfTheA x = new RoundOfTheA();
             for (int i : new int[] {-1, 5, 7, 8, 9, MIN, MAX}) is("hear(" + i + ", 9)", x.hear(i, 9), BAD);
         });
         holds("10: BAD: no such DESK is heard", () -> {
-            refused("hear(0, 5)", BAD, Edges::lived, x -> x.hear(0, 5));
+            leavesAll("hear(0, 5)", BAD, Edges::lived, x -> x.hear(0, 5));
             RoundOfTheA x = new RoundOfTheA();
             for (int whom : new int[] {-1, 5, 6, 7, 10, 11, MIN, MAX}) is("hear(0, " + whom + ")", x.hear(0, whom), BAD);
         });
@@ -431,7 +441,7 @@ final class TuningEdges extends Edges {
     }
 
     private void undoing() {
-        holds("11: NO: nothing is UNDONE at first", () -> refused("undo", NO, x -> { }, x -> x.undo()));
+        holds("11: NO: nothing is UNDONE at first", () -> leavesAll("undo", NO, x -> { }, x -> x.undo()));
         holds("11: NO: all is UNDONE", () -> {
             RoundOfTheA x = new RoundOfTheA();
             x.tune(1);
