@@ -16,12 +16,12 @@ final class KeptEdges extends Edges {
     }
 
     private void keeping() {
-        holds("28: how many: 1, 2", () -> {
+        holds("P28: how many: 1, 2", () -> {
             RoundOfTheA x = new RoundOfTheA();
             is("keep", x.keep(), 1);
             is("keep", x.keep(), 2);
         });
-        holds("4: 2 at most: FULL", () -> {
+        holds("T4: 2 at most: FULL", () -> {
             leavesAll("keep of three", FULL, KeptEdges::twoKept, x -> x.keep());
             RoundOfTheA x = new RoundOfTheA();
             twoKept(x);
@@ -30,7 +30,7 @@ final class KeptEdges extends Edges {
             x.back();
             is("SECONDS as KEPT second", x.count(1), 60);
         });
-        holds("28: there is room again behind back", () -> {
+        holds("P28: there is room again behind back", () -> {
             RoundOfTheA x = new RoundOfTheA();
             twoKept(x);
             x.back();
@@ -42,7 +42,7 @@ final class KeptEdges extends Edges {
             x.back();
             is("SECONDS at first", x.count(1), 0);
         });
-        holds("28: keeping changes nothing and is not UNDONE", () -> {
+        holds("P28: keeping changes nothing and is not UNDONE", () -> {
             RoundOfTheA x = new RoundOfTheA();
             x.tune(3);
             x.keep();
@@ -50,7 +50,7 @@ final class KeptEdges extends Edges {
             is("undo", x.undo(), 0);
             is("KEPT", x.count(5), 1);
         });
-        holds("28: the same can be KEPT twice", () -> {
+        holds("P28: the same can be KEPT twice", () -> {
             RoundOfTheA x = new RoundOfTheA();
             x.keep();
             x.keep();
@@ -67,14 +67,14 @@ final class KeptEdges extends Edges {
     }
 
     private void goingBack() {
-        holds("29: as KEPT last", () -> {
+        holds("P29: as KEPT last", () -> {
             RoundOfTheA x = new RoundOfTheA();
             twoKept(x);
             x.minutes(7);
             is("back", x.back(), 1);
             is("SECONDS", x.count(1), 60);
         });
-        holds("29: it is KEPT no more then: how many are left", () -> {
+        holds("P29: it is KEPT no more then: how many are left", () -> {
             RoundOfTheA x = new RoundOfTheA();
             twoKept(x);
             is("back", x.back(), 1);
@@ -83,7 +83,7 @@ final class KeptEdges extends Edges {
             is("KEPT", x.count(5), 0);
             is("SECONDS", x.count(1), 0);
         });
-        holds("29: nothing is UNDONE then", () -> {
+        holds("P29: nothing is UNDONE then", () -> {
             RoundOfTheA x = new RoundOfTheA();
             x.minutes(1);
             x.keep();
@@ -100,17 +100,17 @@ final class KeptEdges extends Edges {
     }
 
     private void backRefused() {
-        holds("29: NO: nothing is KEPT at first", () -> leavesAll("back", NO, x -> {
+        holds("P29: NO: nothing is KEPT at first", () -> leavesAll("back", NO, x -> {
             x.minutes(1);
             x.together(1, 200);
         }, x -> x.back()));
-        holds("29: NO: nothing is KEPT any more", () -> leavesAll("back", NO, x -> {
+        holds("P29: NO: nothing is KEPT any more", () -> leavesAll("back", NO, x -> {
             twoKept(x);
             x.back();
             x.back();
             x.minutes(2);
         }, x -> x.back()));
-        holds("29: NO: what could be UNDONE still can", () -> {
+        holds("P29: NO: what could be UNDONE still can", () -> {
             RoundOfTheA x = new RoundOfTheA();
             x.minutes(1);
             is("back", x.back(), NO);
@@ -119,7 +119,7 @@ final class KeptEdges extends Edges {
     }
 
     private void whatIsKept() {
-        holds("4: KEPT are all OFF", () -> {
+        holds("T4: KEPT are all OFF", () -> {
             RoundOfTheA x = laid(times(8, "d1,4,1,9;") + "w1;p0,0;p7,40;");
             x.keep();
             x.minutes(3);
@@ -127,14 +127,14 @@ final class KeptEdges extends Edges {
             x.back();
             offsAre(x, -20, 0, 0, 0, 0, 0, 0, 20);
         });
-        holds("4: KEPT is the OBOE", () -> {
+        holds("T4: KEPT is the OBOE", () -> {
             RoundOfTheA x = laid("d1,3,1,9;o18,3;");
             x.keep();
             x.tune(1);
             x.back();
             oboeIs(x, 9);
         });
-        holds("4: KEPT are SECONDS, not full minutes alone", () -> {
+        holds("T4: KEPT are SECONDS, not full minutes alone", () -> {
             RoundOfTheA x = laid("d1,3,59,8;w1;");
             x.tune(1);
             x.keep();
@@ -145,7 +145,7 @@ final class KeptEdges extends Edges {
             x.tune(1);
             offsAre(x, 1);
         });
-        holds("4: KEPT is who HEARS whom", () -> {
+        holds("T4: KEPT is who HEARS whom", () -> {
             RoundOfTheA x = laid(times(8, "d1,4,1,9;"));
             x.hear(7, 0);
             x.keep();
@@ -155,7 +155,7 @@ final class KeptEdges extends Edges {
             is("desk 7 HEARS", x.desk(7, 3), 0);
             is("desk 0 HEARS", x.desk(0, 3), 9);
         });
-        holds("4: KEPT is not what is HEARD TOGETHER, nor THE TEXT", () -> {
+        holds("T4: KEPT is not what is HEARD TOGETHER, nor THE TEXT", () -> {
             RoundOfTheA x = new RoundOfTheA();
             x.keep();
             x.together(1, 200);
@@ -167,18 +167,18 @@ final class KeptEdges extends Edges {
     }
 
     private void counts() {
-        holds("30: BAD: what (0 to 7)", () -> {
+        holds("P30: BAD: what (0 to 7)", () -> {
             RoundOfTheA x = new RoundOfTheA();
             for (int what : new int[] {-1, 8, 9, MIN, MAX}) is("count(" + what + ")", x.count(what), BAD);
             leavesAll("count(8)", BAD, Edges::lived, y -> y.count(8));
         });
-        holds("30: each of them at its least", () -> {
+        holds("P30: each of them at its least", () -> {
             RoundOfTheA x = laid("d0,3,1,9;h1;");
             x.wipe();
             int[] want = {1, 0, 0, 0, 0, 0, 0, 1};
             for (int what = 0; what < 8; what++) is("count(" + what + ")", x.count(what), want[what]);
         });
-        holds("30: degrees warmer than at first: full minutes by B", () -> {
+        holds("P30: degrees warmer than at first: full minutes by B", () -> {
             RoundOfTheA x = laid("d0,3,59,9;w2;");
             x.tune(1);
             is("of 59 seconds", x.count(2), 0);
@@ -192,7 +192,7 @@ final class KeptEdges extends Edges {
     }
 
     private void countsAtTheirMost() {
-        holds("30: each of them at its most", () -> {
+        holds("P30: each of them at its most", () -> {
             RoundOfTheA x = laid(times(8, "d0,3,1,9;") + "w3;h20;");
             writeAll(x, times(121, "x"));
             hoursPass(x, 27);
