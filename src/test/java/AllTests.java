@@ -10,6 +10,7 @@ public final class AllTests {
         GroupEdges.run(due);
         HighEdges.run(due);
         KeptEdges.run(due);
+        ReadmeTests.run(due);
         ModelTests.run(due);
         LanguageTests.run(due, args.length > 0 ? args[0] : "src/main/java/RoundOfTheA.java");
         System.out.println("project: " + due.passed() + " passed, " + due.failed() + " failed");
